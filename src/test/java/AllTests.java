@@ -1,9 +1,16 @@
+import java.nio.file.Path;
+
 /** Runs every test of the project and ends with exit code 1 if one fails. */
 final class AllTests {
     private AllTests() {
     }
 
+    /** The first argument is the path of the program's source. */
     public static void main(String[] args) {
+        String source = args.length > 0 ? args[0] : "src/main/java/SmallestSpeed.java";
+        PromiseTests.run();
+        LanguageTests.run(Path.of(source));
+        RoomTests.run();
         RandomRuns.run();
         System.out.println(Check.closingLine());
         if (Check.failures() != 0) {
