@@ -347,6 +347,35 @@ final class PromiseTests {
         due("cell", x.of(0, 0, 2), 1);
         x.stand(0, 48);
         due("a refused call is not to be undone", x.undo(), NO);
+        p08UndoInOrder();
+    }
+
+    private static void p08UndoInOrder() {
+        SmallestSpeed x = road(10, 0);
+        for (int i = 0; i < 3; i++) {
+            x.child(0, 4, 20 + i, 0, 30 + i);
+        }
+        x.bed(2, 1);
+        x.stand(2, 2);
+        x.stand(1, 3);
+        x.stand(0, 4);
+        x.bed(0, 5);
+        x.bed(1, 6);
+        x.bed(2, 7);
+        x.stand(1, 8);
+        x.bed(0, 9);
+        x.stand(2, 10);
+        int[] left = {10, 9, 8, 7, 6, 5, 4, 3};
+        int[] child = {2, 0, 1, 2, 1, 0, 0, 1};
+        int[] what = {2, 5, 2, 5, 5, 5, 2, 2};
+        int[] ahead = {2, 5, 3, 1, 31, 30, 20, 21};
+        for (int i = 0; i < left.length; i++) {
+            due("told", x.of(child[i], 0, what[i]), left[i]);
+            due("undone", x.undo(), 7 - i);
+            due("as ahead", x.of(child[i], 0, what[i]), ahead[i]);
+        }
+        due("the first two stay", x.of(2, 0, 5), 1);
+        due("the first two stay", x.of(2, 0, 2), 2);
     }
 
     private static void p09Type() {
@@ -424,6 +453,9 @@ final class PromiseTests {
         due("early end", readOf("road 1 2;child 0 1 0 0 60  "), -37);
         due("a word that is none", readOf("roads 1 2;"), -10);
         due("a word that is none", readOf("roa"), -10);
+        due("a word that is none", readOf("boad 1 2;"), -10);
+        due("a word that is none", readOf("roax 1 2;"), -10);
+        due("a word that is none", readOf("road 1 2;shild 0 1 0 0 60;"), -19);
         due("a word that is none", readOf("road 1 2;chil"), -19);
         due("a word that is none", readOf("road 1 2; children 0 1 0 0 60;"), -20);
         due("a word where a number is due", readOf("road one 2;"), -15);
@@ -551,6 +583,10 @@ final class PromiseTests {
         x.rule(1);
         due("the lowest", x.limit(20, 0, 0), 2);
         due("the lowest in sight", x.limit(13, 0, 0), 6);
+        due("the first alone in sight", x.limit(6, 0, 0), 6);
+        x.stand(2, 47);
+        due("the first alone in sight", x.limit(10, 0, 0), 7);
+        x.stand(2, 16);
         x.rule(2);
         due("of 20 and 24, lower one", x.limit(20, 0, 0), (7 + 2) / 2);
         due("both in 24", x.limit(30, 0, 0), 3);
@@ -886,6 +922,14 @@ final class PromiseTests {
         due("the second child", w.move(0), 101);
         due("she who walks along", besideAWalker().move(0), 1);
         due("not sooner", besideAWalker().move(1), NONE);
+        SmallestSpeed v = road(0, 0);
+        v.child(0, 1, 9, 0, 60);
+        v.child(0, 1, 9, 0, 60);
+        due("one alone of two is of no use", v.move(0), NONE);
+        SmallestSpeed u = road(0, 0);
+        u.child(2, 1, 9, 3, 60);
+        due("9 in minute 2, slow", u.there(1), 8);
+        due("the first cell of all, 3 in minute 1", u.move(1), 0);
     }
 
     private static void p23Carters() {
@@ -921,6 +965,30 @@ final class PromiseTests {
         due("there(2)", x.there(2), 8);
         due("0 0, 1 1", x.carters(0, 0), 2);
         due("the first", x.carters(0, 1), 0);
+        fourMinutesLater();
+    }
+
+    private static void fourMinutesLater() {
+        SmallestSpeed x = road(4, 0);
+        x.child(5, 7, 3, 2, 25);
+        x.child(2, 8, 11, 2, 29);
+        x.child(3, 2, 6, 1, 55);
+        x.child(2, 9, 33, 3, 12);
+        int[] ends = {32, 28, 29, 32, 33, 36};
+        SmallestSpeed y = road(20, 2);
+        y.child(0, 1, 45, 1, 56);
+        y.child(5, 2, 34, 0, 28);
+        y.child(3, 3, 15, 0, 8);
+        y.child(5, 7, 2, 3, 54);
+        int[] others = {41, 37, 36, 43, 44, 45};
+        for (int i = 0; i < 6; i++) {
+            due("there", x.there(20 + i), ends[i]);
+            due("there", y.there(17 + i), others[i]);
+        }
+        due("0 0 rests: 68 by 1, too, 4 later; 1 1", x.carters(20, 0), 2);
+        due("0 0", x.carters(20, 1), 0);
+        due("0 0 does not: 60 by 2, 4 later; 1 1, 2 2", y.carters(17, 0), 2);
+        due("1 1", y.carters(17, 1), 11);
     }
 
     // ---- what was seen
@@ -1032,6 +1100,8 @@ final class PromiseTests {
         due("like nobody", z.look(0), 0);
         z.child(0, 8, 47, 3, 60);
         due("at the end", z.look(59), 42);
+        z.sight(0);
+        due("in the last cell", z.look(59), 47);
     }
 
     private static void p28Dolls() {
@@ -1117,6 +1187,12 @@ final class PromiseTests {
         fraction(x, 21, 2);
         x.days(1, 5, 20);
         fraction(x, 15 + 6 + 15 + 6 + 15, 5);
+        SmallestSpeed y = slowStart();
+        y.child(0, 9, 47, 0, 60);
+        y.days(1, 1, 20);
+        fraction(y, 15, 1);
+        y.days(1, 2, 14);
+        fraction(y, 21, 2);
     }
 
     private static void fraction(SmallestSpeed x, long above, long below) {
@@ -1202,6 +1278,28 @@ final class PromiseTests {
         x.from(1);
         due("children as kept", x.count(0), 1);
         due("image 0 is not 1", x.from(0), NO);
+        undoOfAnImage();
+    }
+
+    private static void undoOfAnImage() {
+        SmallestSpeed x = road(10, 0);
+        x.child(0, 1, 20, 0, 30);
+        x.child(0, 1, 21, 0, 31);
+        x.stand(1, 5);
+        x.bed(0, 6);
+        x.image(0);
+        x.undo();
+        x.undo();
+        x.bed(0, 7);
+        x.stand(1, 8);
+        x.from(0);
+        due("undo", x.undo(), 1);
+        due("the bed", x.of(0, 0, 5), 30);
+        due("the cell yet", x.of(1, 0, 2), 5);
+        due("undo", x.undo(), 0);
+        due("the cell", x.of(1, 0, 2), 21);
+        due("the other's cell", x.of(0, 0, 2), 20);
+        due("the other's bed", x.of(1, 0, 5), 31);
     }
 
     private static void p33Status() {
