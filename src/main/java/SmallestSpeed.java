@@ -43,8 +43,8 @@ public final class SmallestSpeed {
     private boolean kept1;
     private final RoadText text = new RoadText();
     private final Limits limits = new Limits();
-    private final Drives drives = new Drives(limits);
-    private final Sightings sightings = new Sightings(limits);
+    private final Drives drives = new Drives();
+    private final Sightings sightings = new Sightings();
     private int above;
     private int below = 1;
     private int refusedBad;
@@ -730,12 +730,8 @@ public final class SmallestSpeed {
 
     /** Drives on a road, and what is best by them. A minute that does not come is NEVER. */
     private static final class Drives {
-        final Limits limits;
+        final Limits limits = new Limits();
         final int[] ends = new int[CARTERS_CHOICES];
-
-        Drives(Limits shared) {
-            limits = shared;
-        }
 
         int cellOfDrive(Road road, int a, int m) {
             int cell = 0;
@@ -911,12 +907,8 @@ public final class SmallestSpeed {
 
     /** What the readings of a road tell of who was out. Sets of sets are told as bits, a bit a set. */
     private static final class Sightings {
-        final Limits limits;
+        final Limits limits = new Limits();
         final int[] alike = new int[TALLEST + 1];
-
-        Sightings(Limits shared) {
-            limits = shared;
-        }
 
         boolean isAsRead(Road road, int set) {
             for (int i = 0; i < road.readings; i++) {

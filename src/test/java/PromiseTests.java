@@ -426,6 +426,8 @@ final class PromiseTests {
         due("blanks", readOf(x, "  road  47   0  ;  child 5 1 2 3 4 ; "), 2);
         due("sight", x.count(1), 47);
         due("law", x.count(2), 0);
+        due("a road alone", readOf(x, "road 5 1;"), 1);
+        counts(x, 0, 5, 1);
         due("noughts ahead", readOf(x, "road 07 01;child 00 09 00 03 06;"), 2);
         due("sight", x.count(1), 7);
         due("no blanks where none are needed", readOf(x, "road10 2;child0 1 0 0 0;"), 2);
@@ -836,6 +838,7 @@ final class PromiseTests {
         }
         due("run past on the last cells, not who is in bed", x.fined(0, 2), 1);
         due("one comes to 45 only", x.fined(57, 2), 0);
+        due("of the least height, too", lowOneRunPast().fined(0, 2), 1);
         SmallestSpeed y = road(0, 0);
         y.child(2, 9, 44, 3, 60);
         int[] speeds = {15, 15, 13, 3, 1, 15, 15};
@@ -844,6 +847,12 @@ final class PromiseTests {
         }
         due("the player comes to 47 where one stands", y.fined(0, 2), 0);
         due("the player is there as one comes", y.fined(1, 2), 1);
+    }
+
+    private static SmallestSpeed lowOneRunPast() {
+        SmallestSpeed x = slowStart();
+        x.speed(1);
+        return x;
     }
 
     // ---- what had better be
