@@ -8,7 +8,11 @@ final class Check {
     }
 
     static void due(String what, long got, long want) {
-        that(what + " answered " + got + ", due is " + want, got == want);
+        if (got == want) {
+            passed++;
+        } else {
+            that(what + " answered " + got + ", due is " + want, false);
+        }
     }
 
     static void that(String what, boolean holds) {
@@ -20,6 +24,10 @@ final class Check {
         if (failed <= MOST_SHOWN) {
             System.out.println("FAILED: " + what);
         }
+    }
+
+    static int made() {
+        return passed + failed;
     }
 
     static int failures() {
