@@ -274,6 +274,24 @@ final class SeenEdges extends Edges {
         last.child(0, 9, 0, 0, 60);
         last.child(0, 3, 47, 0, 60);
         due("47", last.look(0), 47);
+        SmallestSpeed both = road(47, 0);
+        both.child(0, 3, 0, 0, 60);
+        both.child(0, 3, 47, 0, 60);
+        due("all see both, and none but these is looked at", both.look(0), 0);
+    }
+
+    @Edge(promise = 27, says = LOOK)
+    static void p27_look_of64Sets() {
+        SmallestSpeed x = road(0, 2);
+        x.child(0, 3, 0, 0, 60);
+        x.child(0, 9, 10, 0, 60);
+        x.child(0, 5, 10, 0, 60);
+        for (int i = 0; i < 3; i++) {
+            x.child(0, 1, 20, 0, 0);
+        }
+        due("32 and 32 in 0, 32, 16 and 16 in 10", x.look(0), 0);
+        x.stand(0, 30);
+        due("32, 16 and 16 in 10, 32 and 32 in 30", x.look(0), 10);
     }
 
     @Edge(promise = 27, says = LOOK)
@@ -449,6 +467,19 @@ final class SeenEdges extends Edges {
         mean(slow(1), 0, 1, 1, 6, 1);
         mean(slow(1), 194, 1, 99, 47, 1);
         mean(slow(1), 194, 1, 100, 6, 1);
+    }
+
+    /** By seed 42627 the first X is 65536 times a number, by seed 47902 it is one less than such a one. */
+    @Edge(promise = 29, says = "X by 65536 (cut), by 100 left over, less than w: it is sick in bed")
+    static void p29_days_by65536Cut() {
+        mean(slow(1), 42627, 1, 13, 47, 1);
+        mean(slow(1), 42627, 1, 14, 6, 1);
+        mean(slow(1), 47902, 1, 30, 47, 1);
+        mean(slow(1), 47902, 1, 31, 6, 1);
+        mean(slow(1), 173699, 1, 99, 47, 1);
+        mean(slow(1), 173699, 1, 100, 6, 1);
+        mean(slow(1), 178974, 1, 16, 47, 1);
+        mean(slow(1), 178974, 1, 17, 6, 1);
     }
 
     @Edge(promise = 29, says = DRAW)

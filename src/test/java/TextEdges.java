@@ -200,6 +200,12 @@ final class TextEdges extends Edges {
         fault("road 1 2a;", 8);
         fault("road 1 2 road;", 9);
         fault("road road 1 2;", 5);
+        for (int i = 0; i < 5; i++) {
+            if (i < 4) {
+                fault("road".substring(0, i) + "z" + "road".substring(i + 1) + " 1 2;", 0);
+            }
+            fault("road 1 2;" + "child".substring(0, i) + "z" + "child".substring(i + 1) + " 0 1 0 0 0;", 9);
+        }
     }
 
     @Edge(promise = 11, says = {"road again", "once, first of all"})

@@ -77,6 +77,32 @@ final class UndoEdges extends Edges {
     }
 
     @Edge(promise = 8, says = "8 at most")
+    static void p08_undo_8AtMostOfCellsAndBeds() {
+        SmallestSpeed x = threeChildren();
+        boolean[] beds = {true, false, false, true, false, true, true, false, false, false, true};
+        for (int i = 0; i < beds.length; i++) {
+            due("what it was", beds[i] ? x.bed(0, i + 1) : x.stand(0, i + 1), wasAhead(beds, i));
+        }
+        for (int i = beds.length - 1; i >= 3; i--) {
+            due("undone", x.undo(), i - 3);
+            due("as ahead of it", x.of(0, 0, beds[i] ? 5 : 2), wasAhead(beds, i));
+        }
+        due("no more", x.undo(), NO);
+        due("the cell told third stays", x.of(0, 0, 2), 3);
+        due("the bed told first stays", x.of(0, 0, 5), 1);
+    }
+
+    /** The one told last of the same sort ahead of the i-th, which was told as its number and 1. */
+    private static int wasAhead(boolean[] beds, int i) {
+        for (int j = i - 1; j >= 0; j--) {
+            if (beds[j] == beds[i]) {
+                return j + 1;
+            }
+        }
+        return beds[i] ? 30 : 20;
+    }
+
+    @Edge(promise = 8, says = "8 at most")
     static void p08_undo_8AtMostThoughSomeAreUndone() {
         SmallestSpeed x = threeChildren();
         for (int i = 1; i <= 8; i++) {
