@@ -620,6 +620,9 @@ public final class SmallestSpeed {
 
     /** Where the children of a road are in one minute, how high they count, and the limits by that. */
     private static final class Limits {
+        /** A rank is a distance, a height and a number in one, so that one comparison orders all. */
+        private static final int HEIGHTS = 16;
+        private static final int NUMBERS = 8;
         /** Behind every rank that a child can have. */
         private static final int NOBODY = 1 << 20;
 
@@ -680,7 +683,7 @@ public final class SmallestSpeed {
 
         int nearestChild(Road road, int cell) {
             int first = nearestBehind(road, road.everyChild(), cell, -1);
-            return first == NOBODY ? NONE : first % 8;
+            return first == NOBODY ? NONE : first % NUMBERS;
         }
 
         /** The set of the children who are out in one of the cells. */
@@ -699,7 +702,7 @@ public final class SmallestSpeed {
             int best = NOBODY;
             for (int i = 0; i < road.children; i++) {
                 if (isSeen(road, set, cell, i)) {
-                    int its = (Math.abs(cells[i] - cell) * 16 + highs[i]) * 8 + i;
+                    int its = (Math.abs(cells[i] - cell) * HEIGHTS + highs[i]) * NUMBERS + i;
                     if (its > rank && its < best) {
                         best = its;
                     }
@@ -724,7 +727,7 @@ public final class SmallestSpeed {
         }
 
         static int highByRank(int rank) {
-            return rank / 8 % 16;
+            return rank / NUMBERS % HEIGHTS;
         }
     }
 

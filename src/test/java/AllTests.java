@@ -5,13 +5,15 @@ final class AllTests {
     private AllTests() {
     }
 
-    /** The first argument is the path of the program's source, the second one that of its document. */
+    /** The arguments are the paths of the program's source, of its document and of its README.md. */
     public static void main(String[] args) {
         String source = args.length > 0 ? args[0] : "src/main/java/SmallestSpeed.java";
         String document = args.length > 1 ? args[1] : "../shared/DOC.md";
+        String readme = args.length > 2 ? args[2] : "README.md";
         PromiseTests.run();
         EdgeTests.run(Path.of(document));
         LanguageTests.run(Path.of(source));
+        ReadmeTests.run(Path.of(readme));
         RoomTests.run();
         RandomRuns.run();
         System.out.println(Check.closingLine());
